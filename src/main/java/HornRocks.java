@@ -569,6 +569,7 @@ public final class HornRocks {
                     was = sweet;
                     sweet = v;
                     return was;
+                case ROCK_SILENT:
                 default:
                     was = silent;
                     silent = v;

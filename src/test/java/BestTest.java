@@ -21,7 +21,10 @@ public final class BestTest {
             ship 1 9 = 5
             ear = 5
             now 2 = 9
-            set 0 2 0 = 10
+            set 0 2 2 = 10
+            # 2 by 2 is 1: only the best ear hears it
+            ear = 9
+            set 0 2 0 = 2
             ear = NONE
             ship 0 63 = 0
             ear = 0
@@ -174,6 +177,28 @@ public final class BestTest {
             fewest 41 = BEYOND
             watches 3 = 24
             fewest 1 = NONE
+            """);
+        script.run("promise 22: of several sets the least", """
+            # the rock sends her up, the buoy back onto the rock: either one's silence keeps her off
+            rock 0 8 = 0
+            rock 3 5 = 1
+            ship 0 8 = 0
+            strikes = 2
+            fewest 1 = 0
+            fewest 12 = 1
+            set 1 4 1 = 0
+            fewest 12 = 0
+            """);
+        script.run("promise 22: all eight", """
+            tape granite at 24 horn 99;granite at 24 horn 99;granite at 24 horn 99;granite at 24 horn 99
+            chart = 4
+            tape granite at 24 horn 99;granite at 24 horn 99;granite at 24 horn 99;granite at 24 horn 99
+            chart = 4
+            ship 2 1 = 0
+            fewest 2 = 0
+            fewest 3 = 255
+            set 7 4 1 = 0
+            fewest 3 = 127
             """);
         script.run("promise 22: a rock in the way that is silent anyway", """
             rock 0 5 = 0

@@ -89,6 +89,21 @@ public final class ImagesTest {
             undo = 2
             of 1 0 = 5
             """);
+        script.run("promise 33: a rock that comes anew is as new ones are", """
+            image = 1
+            rock 4 9 = 0
+            set 0 2 1 = 20
+            set 0 3 1 = 5
+            set 0 4 1 = 0
+            undo = 0
+            of 0 0 = BEYOND
+            rock 2 8 = 0
+            of 0 0 = 2
+            of 0 1 = 8
+            of 0 2 = 20
+            of 0 3 = 5
+            of 0 4 = 0
+            """);
         script.run("promise 34", """
             tear = 0
             image = 1
@@ -114,8 +129,10 @@ public final class ImagesTest {
             count 1 = 3
             count 2 = 1
             count 3 = 126
-            set 2 4 1 = 0
+            set 0 4 1 = 0
             count 2 = 2
+            set 2 4 1 = 0
+            count 2 = 3
             count 3 = 126
             count -1 = BEYOND
             count 4 = BEYOND

@@ -84,13 +84,23 @@ public final class LanguageTest {
         while (imports.find()) {
             holds("import " + imports.group(1), imports.group(1).equals("java.util.Arrays"));
         }
+        lines(text.split("\n"));
+    }
+
+    private static void lines(String[] lines) {
         int begun = 0;
         int number = 0;
-        for (String line : text.split("\n")) {
+        String head = "";
+        for (String line : lines) {
             number++;
             holds("short line " + number, line.length() <= LONGEST_LINE);
-            if (line.matches("( {4}| {8})[a-z].*\\) \\{")) {
+            if (line.matches("( {4}| {8})[A-Za-z].*\\) \\{")) {
                 begun = number;
+                head = line.strip();
+            }
+            if (line.matches(".*= new .*")) {
+                // What calls make is counted in one room for a whole run: only constructors make anything.
+                holds("nothing made at line " + number, head.matches("(public )?[A-Z]\\w*\\(.*"));
             }
             if (line.matches(" {4}\\}| {8}\\}")) {
                 holds("short method at line " + begun, number - begun <= LONGEST_METHOD || begun == 0);

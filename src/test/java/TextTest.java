@@ -167,6 +167,7 @@ public final class TextTest {
             """);
         reads("  rock   at 5  ;ship 3 ", 2);
         reads("rock at5horn7sweet1silent;ship3ear4longing", 2);
+        reads("ship 0 ear 0;rock at 0 horn 0 sweet 0", 2);
         reads("rock at 005 horn 0099 sweet 0000009", 1);
     }
 
@@ -200,6 +201,10 @@ public final class TextTest {
         reads("rock at 5 silent horn 5", -18);
         reads("rock at 5 silently", -11);
         reads("rock at 5 5", -11);
+        reads("rockz at 5", -1);
+        reads("rock at 5a", -10);
+        reads("aock at 5", -1);
+        reads("sock at 5", -1);
         reads("rock at 5;", -11);
         reads("rock at 5;;rock at 5", -11);
         reads("rock at 5 rock at 6", -11);

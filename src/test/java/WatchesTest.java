@@ -93,6 +93,27 @@ public final class WatchesTest {
             ship 0 19 = 27
             watches 1 = 27
             """);
+        script.run("towards: the corners and edges of the chart", """
+            rock 3 0 = 0
+            ship 2 1 = 0
+            ship 0 1 = 0
+            watches 1 = 0
+            ship 0 8 = 0
+            watches 1 = 0
+            set 0 1 56 = 0
+            ship 0 48 = 0
+            watches 1 = 56
+            watches 1 = 48
+            set 0 1 7 = 56
+            ship 0 6 = 48
+            watches 1 = 7
+            # from the corner the others are all as near: down comes before left
+            watches 1 = 15
+            set 0 1 63 = 7
+            ship 0 55 = 15
+            watches 1 = 63
+            now 4 = 2
+            """);
         script.run("by heart 0 the loudest leads, by heart 1 the sweetest; of several the least", """
             rock 3 0 = 0
             rock 3 0 = 1
