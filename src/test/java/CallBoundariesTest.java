@@ -36,6 +36,7 @@ public final class CallBoundariesTest {
         watches();
         onAndMoved();
         strikesAndHome();
+        late();
         comes();
         ear();
         begin();
@@ -324,6 +325,45 @@ public final class CallBoundariesTest {
             """);
     }
 
+    /** Long voyages, found by a search: home in 102 watches, struck in 125. */
+    private static void late() {
+        SCRIPT.run("promises 15, 21: HOME after more than 100 WATCHES; within 100", """
+            ship 0 63
+            watches 6
+            tape buoy at 7 horn 10 sweet 8;shoal at 63 horn 64;maid at 49 horn 50 sweet 0
+            chart = 3
+            tape maid at 11 horn 24 sweet 1;maid at 36 horn 32 sweet 0;buoy at 1 silent;bar at 7 horn 99 sweet 1
+            chart = 4
+            ship 0 16 = 63
+            home = 102
+            on 101 1 = 0
+            on 102 1 = 2
+            comes 63 = 102
+            strikes = NONE
+            # the horn of a silent one changes nothing
+            horn 5 100 = NONE
+            watches 1
+            home = 101
+            horn 5 100 = NONE
+            watches 1
+            home = 100
+            horn 5 100 = 99
+            horn 5 99 = NONE
+            """);
+        SCRIPT.run("promise 14: STRUCK after more than 100 WATCHES", """
+            tape buoy at 54 horn 8 sweet 7;bar at 7 horn 82 sweet 0;shoal at 37 horn 35 sweet 7
+            chart = 3
+            tape maid at 38 horn 4 sweet 2 silent;maid at 7 horn 97 sweet 9;rock at 18 horn 32 sweet 4
+            chart = 3
+            tape rock at 4 horn 44 sweet 4;shoal at 56 horn 26 sweet 3;ship 38 ear 4
+            chart = 3
+            strikes = 125
+            on 124 1 = 0
+            on 125 1 = 1
+            home = NONE
+            """);
+    }
+
     private static void comes() {
         SCRIPT.range("", "comes ?", 0, 63);
         SCRIPT.range(MUCH, "comes ?", 0, 63);
@@ -389,6 +429,13 @@ public final class CallBoundariesTest {
             ship 0 23 = 21
             home = 7
             """);
+        SCRIPT.run("promise 18: of one row: the first SQUARE of the next is none of it", """
+            rock 1 20 = 0
+            set 0 2 0 = 20
+            begin 2 = NONE
+            ship 0 24 = 0
+            home = 11
+            """);
         SCRIPT.run("promise 18: the last SQUARE of a row, when the others strike on the way to it", """
             rock 0 47 = 0
             set 0 2 0 = 20
@@ -409,6 +456,15 @@ public final class CallBoundariesTest {
             rock 3 63 = 2
             silence = NONE
             ship 0 63 = 0
+            silence = NONE
+            """);
+        SCRIPT.run("promise 19: the last of eight", """
+            times 7 rock 0 56
+            sheet 0 8 7
+            lays 0 = 7
+            rock 3 63 = 7
+            silence = 7
+            set 7 4 1 = 0
             silence = NONE
             """);
         SCRIPT.run("promise 19: as soon as it is, is not sooner", """
@@ -502,6 +558,17 @@ public final class CallBoundariesTest {
             fewest 1 = NONE
             fewest 40 = NONE
             fewest 0 = BEYOND
+            """);
+        SCRIPT.run("promise 22: of several the least", """
+            # the rock sends her up, the buoy back onto the rock: either one's silence keeps her off
+            rock 0 8 = 0
+            rock 3 5 = 1
+            ship 0 8 = 0
+            strikes = 2
+            fewest 1 = 0
+            fewest 2 = 1
+            set 0 4 1 = 0
+            fewest 2 = 0
             """);
         SCRIPT.run("promise 22: none, one and all of eight; NONE", """
             fewest 40 = 0

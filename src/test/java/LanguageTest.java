@@ -1,5 +1,6 @@
 import java.io.IOException;
 import java.lang.reflect.Constructor;
+import java.lang.reflect.Field;
 import java.lang.reflect.Method;
 import java.lang.reflect.Modifier;
 import java.nio.file.Files;
@@ -21,6 +22,10 @@ public final class LanguageTest {
     private static final List<String> FORBIDDEN = List.of("\\bthrow\\b", "\\btry\\b", "\\bcatch\\b", "\\bsynchronized\\b",
             "\\bassert\\b", "->", "::", "\\bprotected\\b", "\\bpackage\\b", "Exact\\b", "\\bSystem\\.(?!arraycopy)",
             "\\bRandom\\b", "\\bThread\\b", "\\bequals\\b", "\\bhashCode\\b", "\\btoString\\b");
+    private static final Set<Class<?>> CONSTANTS = Set.of(int.class, long.class, boolean.class, char.class,
+            String.class, int[].class, long[].class, char[].class, byte[].class);
+    private static final int MOST_FIELDS = 20;
+    private static final int MOST_PARAMETERS = 7;
     private static final int LONGEST_METHOD = 60;
     private static final int LONGEST_LINE = 120;
 
@@ -29,6 +34,10 @@ public final class LanguageTest {
     public static void main(String[] args) throws IOException {
         face();
         namesOfInnerMethods();
+        limitsOf(HornRocks.class);
+        for (Class<?> inner : HornRocks.class.getDeclaredClasses()) {
+            limitsOf(inner);
+        }
         source(Files.readString(Path.of("src/main/java/HornRocks.java")));
         SCRIPT.end();
     }
@@ -72,6 +81,21 @@ public final class LanguageTest {
             }
         }
         holds("few classes", HornRocks.class.getDeclaredClasses().length <= 11);
+    }
+
+    /** Rules 5 and 11: static fields are constants, fields some twenty at most, parameters seven. */
+    private static void limitsOf(Class<?> one) {
+        int fields = 0;
+        for (Field field : one.getDeclaredFields()) {
+            boolean isStatic = Modifier.isStatic(field.getModifiers());
+            fields += isStatic ? 0 : 1;
+            holds("constant " + field, !isStatic || Modifier.isFinal(field.getModifiers())
+                    && CONSTANTS.contains(field.getType()));
+        }
+        holds("few fields of " + one, fields <= MOST_FIELDS);
+        for (Method method : one.getDeclaredMethods()) {
+            holds("few parameters of " + method, method.getParameterCount() <= MOST_PARAMETERS);
+        }
     }
 
     private static void source(String text) {

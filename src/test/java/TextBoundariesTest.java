@@ -142,6 +142,11 @@ public final class TextBoundariesTest {
 
     private static void longestTokens() {
         faultAt("", "shipp 5");
+        faultAt("", "shipa 5");
+        faultAt("", "shipz 5");
+        faultAt("", "whip 5");
+        faultAt("", "shin 5");
+        faultAt("", "bock at 5");
         faultAt("", "shi p 5");
         faultAt("", "rockat 5");
         faultAt("rock at 5 ", "hornsweet 5");

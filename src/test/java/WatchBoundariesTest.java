@@ -7,6 +7,7 @@ public final class WatchBoundariesTest {
         guides();
         cornersAway();
         sidesAway();
+        ontoTheSides();
         sidesTowards();
         hearsNone();
         strikes();
@@ -182,6 +183,38 @@ public final class WatchBoundariesTest {
             set 0 1 4 = 28
             ship 0 27 = 19
             watches 1 = 35
+            """);
+    }
+
+    private static void ontoTheSides() {
+        SCRIPT.run("SQUARES that are on THE CHART: its first and last row and column are", """
+            # away: up from row 1, right from column 6, down from row 6, left from column 1
+            rock 3 19 = 0
+            ship 0 11 = 0
+            watches 1 = 3
+            set 0 1 21 = 19
+            ship 0 30 = 3
+            watches 1 = 31
+            set 0 1 44 = 21
+            ship 0 51 = 31
+            watches 1 = 59
+            set 0 1 10 = 44
+            ship 0 1 = 59
+            watches 1 = 0
+            # and towards it
+            ship 2 1 = 0
+            set 0 1 3 = 10
+            ship 0 11 = 0
+            watches 1 = 3
+            set 0 1 31 = 3
+            ship 0 30 = 3
+            watches 1 = 31
+            set 0 1 59 = 31
+            ship 0 51 = 31
+            watches 1 = 59
+            set 0 1 24 = 59
+            ship 0 25 = 59
+            watches 1 = 24
             """);
     }
 
