@@ -43,6 +43,7 @@ public final class CallBoundariesTest {
         silence();
         kind();
         horn();
+        hornBelow();
         fewest();
         SCRIPT.end();
     }
@@ -174,6 +175,8 @@ public final class CallBoundariesTest {
     private static void turnAndAs() {
         rockNumber("turn ? 3");
         SCRIPT.range(MUCH, "turn 1 ?", 0, 5);
+        // One that is of that kind already becomes nothing else.
+        SCRIPT.sameAfter(MUCH, "turn 1 2", "count 0");
         rockNumber("as ? 0");
         SCRIPT.range(MUCH, "as 2 ?", 0, 5);
         // A row a kind: the kinds as one of which it may be taken.
@@ -429,6 +432,29 @@ public final class CallBoundariesTest {
             ship 0 23 = 21
             home = 7
             """);
+        SCRIPT.run("promise 18: within 100 WATCHES: in 100", """
+            tape buoy at 7 horn 10;bar at 63 horn 61 sweet 8;maid at 49 horn 52 sweet 0;maid at 11 horn 24 sweet 1
+            chart = 4
+            tape maid at 36 horn 32 sweet 0;bar at 55 horn 12 sweet 7 silent;bar at 7 horn 99 sweet 8;ship 16 ear 2
+            chart = 4
+            home = 100
+            begin 2 = 16
+            """);
+        SCRIPT.run("promise 18: within 100 WATCHES: in 101 and 102 not", """
+            ship 0 63
+            watches 6
+            tape bar at 6 silent;shoal at 57 horn 63;rock at 11 horn 29 sweet 4;maid at 49 horn 43 sweet 0
+            chart = 4
+            tape buoy at 7 horn 9;maid at 36 horn 28 sweet 0;bar at 23 horn 55 sweet 4;maid at 3 horn 32 sweet 1
+            chart = 4
+            ship 1 9
+            ship 0 0
+            home = 102
+            begin 0 = NONE
+            watches 1 = 8
+            home = 101
+            begin 1 = NONE
+            """);
         SCRIPT.run("promise 18: of one row: the first SQUARE of the next is none of it", """
             rock 1 20 = 0
             set 0 2 0 = 20
@@ -535,6 +561,17 @@ public final class CallBoundariesTest {
             horn 0 101 = BEYOND
             horn 0 0 = BEYOND
             horn 1 1 = BEYOND
+            """);
+    }
+
+    private static void hornBelow() {
+        SCRIPT.run("promise 21: no HORN below 0 is tried", """
+            # with every HORN he hears it, and goes up onto the rock
+            rock 1 27 = 0
+            rock 0 19 = 1
+            set 1 4 1 = 0
+            ship 0 27 = 0
+            horn 0 100 = NONE
             """);
     }
 

@@ -171,6 +171,7 @@ public final class SheetBoundariesTest {
         SCRIPT.range("sheet 0 64 40\nsheet 1 64 40", "copy 0 0 1 0 ?", 0, 40);
         SCRIPT.outside(four, "copy 0 ? 3 ? ?", "BEYOND", Integer.MIN_VALUE, -1, Integer.MAX_VALUE);
         SCRIPT.outside(four, "copy 0 2 3 0 ?", "BEYOND", Integer.MAX_VALUE, Integer.MAX_VALUE - 1);
+        SCRIPT.sameAfter(four, "copy 0 3 3 4 0", "count 0");
         SCRIPT.run("promise 28: n numbers from one on come to another one from one on: none more", """
             sheet 0 16 40 = 40
             sheet 1 16 40 = 40
@@ -242,6 +243,7 @@ public final class SheetBoundariesTest {
             lays -1 = BEYOND
             lays 3 = MISSING
             """);
+        SCRIPT.sameAfter(THREE + "sheet 0 8 1\nwrite 0 0 7", "lays 0", "set 0 2 7");
         SCRIPT.run("promise 29: those that aren't 0 to 99 are left out", """
             times 6 rock 0 9
             sheet 0 16 6 = 6
@@ -324,6 +326,7 @@ public final class SheetBoundariesTest {
             now 0 = 3
             now 1 = 0
             """);
+        SCRIPT.sameAfter(THREE + "sheet 0 8 1\nship 0 9", "book 0", "write 0 0 9");
         SCRIPT.run("promise 30: HOME and STRUCK she stays", """
             sheet 0 8 3 = 3
             ship 0 62 = 0
