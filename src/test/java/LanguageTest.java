@@ -5,9 +5,12 @@ import java.lang.reflect.Method;
 import java.lang.reflect.Modifier;
 import java.nio.file.Files;
 import java.nio.file.Path;
+import java.util.ArrayList;
 import java.util.Arrays;
 import java.util.List;
+import java.util.Map;
 import java.util.Set;
+import java.util.TreeMap;
 import java.util.TreeSet;
 import java.util.regex.Matcher;
 import java.util.regex.Pattern;
@@ -28,6 +31,7 @@ public final class LanguageTest {
     private static final int MOST_PARAMETERS = 7;
     private static final int LONGEST_METHOD = 60;
     private static final int LONGEST_LINE = 120;
+    private static final int DEEPEST_CALLS = 8;
 
     private static final Script SCRIPT = new Script("LanguageTest");
 
@@ -109,6 +113,40 @@ public final class LanguageTest {
             holds("import " + imports.group(1), imports.group(1).equals("java.util.Arrays"));
         }
         lines(text.split("\n"));
+        Map<String, String> bodies = bodies(code);
+        holds("bodies of all methods", bodies.size() > HornRocks.class.getDeclaredMethods().length);
+        for (String name : bodies.keySet()) {
+            int depth = depth(bodies, name, List.of());
+            holds(name + " goes " + depth + " deep", depth <= DEEPEST_CALLS);
+        }
+    }
+
+    /** The body of each method, by its name alone: those of the same name in several classes are taken together. */
+    private static Map<String, String> bodies(String code) {
+        Map<String, String> bodies = new TreeMap<>();
+        Matcher heads = Pattern.compile("(?m)^( {4}| {8})(?:[a-zA-Z\\[\\]]+ )+(\\w+)\\([^()]*\\) \\{$").matcher(code);
+        while (heads.find()) {
+            int end = code.indexOf("\n" + heads.group(1) + "}", heads.end());
+            bodies.merge(heads.group(2), code.substring(heads.end(), end), String::concat);
+        }
+        return bodies;
+    }
+
+    /** Rule 11: how deep the calls from a method go, itself counted. One open already is counted, not followed. */
+    private static int depth(Map<String, String> bodies, String name, List<String> open) {
+        if (open.contains(name)) {
+            return 1;
+        }
+        List<String> nowOpen = new ArrayList<>(open);
+        nowOpen.add(name);
+        int deepest = 0;
+        Matcher calls = Pattern.compile("(\\w+)\\(").matcher(bodies.get(name));
+        while (calls.find()) {
+            if (bodies.containsKey(calls.group(1))) {
+                deepest = Math.max(deepest, depth(bodies, calls.group(1), nowOpen));
+            }
+        }
+        return deepest + 1;
     }
 
     private static void lines(String[] lines) {

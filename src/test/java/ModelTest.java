@@ -6,6 +6,9 @@ import java.util.TreeSet;
 public final class ModelTest {
     private static final int RUNS = 1500;
     private static final int CALLS = 90;
+    /** As many calls as the document promises for one object. */
+    private static final int ALL_CALLS = 512;
+    private static final int LONG_RUNS = 60;
     private static final int[] ODD = {-2147483648, -1000000001, -2, -1, 64, 100, 200, 201, 2147483647};
     private static final String[] WORDS = {"rock", "granite", "bar", "buoy", "maid", "shoal", "ship", "at", "horn",
         "sweet", "silent", "ear", "longing", ";", "reef", "5", "63", "64", "9", "10", "99", "100", "0", "1000", "007"};
@@ -21,11 +24,15 @@ public final class ModelTest {
     private final Script script = new Script("ModelTest");
     private final Random random = new Random(20261118);
     private final Set<String> seen = new TreeSet<>();
+    private int made = 0;
 
     public static void main(String[] args) {
         ModelTest test = new ModelTest();
         for (int run = 0; run < RUNS; run++) {
             test.run(run);
+        }
+        for (int run = 0; run < LONG_RUNS; run++) {
+            test.longRun(run);
         }
         test.needSeen();
         test.script.end();
@@ -45,11 +52,27 @@ public final class ModelTest {
             if (random.nextInt(12) == 0) {
                 tellText(real, model, title);
             } else {
-                String[] words = CALLS_TOLD[random.nextInt(CALLS_TOLD.length)].split(" ");
-                same(real, model, title, words[0], arguments(words));
+                anyCall(real, model, title);
             }
         }
         compareAll(real, model, title);
+    }
+
+    /** All calls that an object is promised for, each held against the model to the last. */
+    private void longRun(int run) {
+        HornRocks real = new HornRocks();
+        Model model = new Model();
+        String title = "long run " + run;
+        made = 0;
+        while (made < ALL_CALLS) {
+            anyCall(real, model, title);
+        }
+        script.due(title, "calls made", made, ALL_CALLS);
+    }
+
+    private void anyCall(HornRocks real, Model model, String title) {
+        String[] words = CALLS_TOLD[random.nextInt(CALLS_TOLD.length)].split(" ");
+        same(real, model, title, words[0], arguments(words));
     }
 
     private long[] arguments(String[] words) {
@@ -141,6 +164,7 @@ public final class ModelTest {
     }
 
     private void same(HornRocks real, Model model, String title, String name, long[] a) {
+        made++;
         StringBuilder told = new StringBuilder(name);
         for (long one : a) {
             told.append(' ').append(one);
